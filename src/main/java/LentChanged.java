@@ -325,7 +325,7 @@ public final class LentChanged {
         return traitOf(state, 0) + traitOf(state, 1) + traitOf(state, 2);
     }
 
-    // Rows are read and written through these two alone, so that no place outside a row is ever touched.
+    // Rows are read and written through these, so that no place outside a row is ever touched.
     private static int at(int[] row, int place) {
         return place >= 0 && place < row.length ? row[place] : 0;
     }
@@ -854,11 +854,12 @@ public final class LentChanged {
             for (int place = 0; place < found && place < STATES; place++) {
                 int from = at(queue, place);
                 for (int borrower = 0; borrower < people.size; borrower++) {
-                    int to = ((set >> borrower) & 1) == 1 ? from : people.after(borrower, from);
-                    if (traitOf(to, trait) < least) {
-                        return false;
-                    }
-                    if (at(seen, to) != search) {
+                    boolean isSpared = ((set >> borrower) & 1) == 1;
+                    int to = people.after(borrower, from);
+                    if (!isSpared && at(seen, to) != search) {
+                        if (traitOf(to, trait) < least) {
+                            return false;
+                        }
                         put(seen, to, search);
                         put(queue, found, to);
                         found++;
