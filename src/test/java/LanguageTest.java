@@ -15,6 +15,7 @@ public final class LanguageTest {
     private static final String FACE = "about/2 as/2 blank/0 by/2 count/1 day/0 digest/0 fault/1 hands/4 image/0 lend/2 letter/1"
             + " reach/1 restore/0 round/2 spoilers/3 thing/1 thingOf/2 town/0 wished/3 years/3";
     private static final String CONSTANTS = "FULL NONE OUTSIDE STATE UNKNOWN";
+    private static final Set<String> FACE_NAMES = Set.of(FACE.replaceAll("/\\d", "").split(" "));
     private static int wrong = 0;
 
     private static void must(boolean holds, String what) {
@@ -34,7 +35,7 @@ public final class LanguageTest {
             else hidden.add(one.getName());
         }
         must(String.join(" ", open).equals(FACE), "1: the methods are " + open);
-        for (String name : FACE.replaceAll("/\\d", "").split(" ")) {
+        for (String name : FACE_NAMES) {
             must(!hidden.contains(name), "1: a private method bears a public name: " + name);
         }
         Set<String> constants = new TreeSet<>();
@@ -64,6 +65,7 @@ public final class LanguageTest {
             for (Method method : one.getDeclaredMethods()) {
                 must(method.getParameterCount() <= 7, "11: at most seven parameters: " + method.getName());
                 must(!List.of("equals", "hashCode", "toString").contains(method.getName()), "6: " + method.getName());
+                must(!FACE_NAMES.contains(method.getName()), "1: a method inside bears a public name: " + method.getName());
             }
         }
     }
